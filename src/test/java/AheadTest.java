@@ -93,7 +93,11 @@ public final class AheadTest {
         check.due("chain(4)", x.chain(4), 0);
         check.due("chain(5)", x.chain(5), 2);
         check.due("chain(12)", x.chain(12), 6);
-        check.due("chain(60)", x.chain(60), x.chain(60) | 6);
+        x.change(0, 4, 8);
+        x.storm(4, 0);
+        check.due("chain(6)", x.chain(6), 1);
+        x.storm(5, 0);
+        check.due("chain(60)", x.chain(60), 0);
         check.due("chain(-1)", x.chain(-1), Check.BEYOND);
         check.due("chain(61)", x.chain(61), Check.BEYOND);
     }

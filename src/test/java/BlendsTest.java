@@ -41,6 +41,8 @@ public final class BlendsTest {
         check.due("least of several order(11)", x.order(11), 6);
         check.due("order(14)", x.order(14), 12);
         check.due("order(21)", x.order(21), 15);
+        x.change(4, 2, 900);
+        check.due("all of them: order(921)", x.order(921), 31);
         check.due("order(1)", x.order(1), Check.NONE);
         check.due("order(9999)", x.order(9999), Check.NONE);
         check.due("order(10000)", x.order(10000), Check.BEYOND);

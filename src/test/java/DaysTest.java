@@ -7,6 +7,7 @@ public final class DaysTest {
         leaksAndAges();
         cancels();
         cancelsBeforeBurst();
+        fullHouse();
         bursts();
         burstsInChain();
         burstsEightTimes();
@@ -65,6 +66,25 @@ public final class DaysTest {
         Check.add(x, Check.MELLOW, 4, 50, 4, 999);
         x.go(1);
         peals(x, 0, 0, 5, 50, 50);
+        ThunderCasks y = new ThunderCasks();
+        Check.add(y, Check.MELLOW, 5, 1, 0, 999);
+        Check.add(y, Check.MELLOW, 5, 1, 0, 999);
+        y.go(1);
+        peals(y, 0, 0);
+    }
+
+    private static void fullHouse() {
+        ThunderCasks x = new ThunderCasks();
+        for (int i = 0; i < 8; i++) {
+            Check.add(x, Check.CASK, 5, 20 + i, i / 2, 100);
+        }
+        check.due("go(1)", x.go(1), 0);
+        peals(x, 0, 1, 0, 1, 0, 1, 0, 1);
+        x.change(7, 2, 102);
+        check.due("now(4)", x.now(4), 128);
+        check.due("chain(1)", x.chain(1), 128);
+        check.due("go(1)", x.go(1), 1);
+        peals(x, 50, 50, 50, 50, 50, 50, 50, 0);
     }
 
     private static void cancelsBeforeBurst() {
@@ -175,6 +195,14 @@ public final class DaysTest {
         check.due("go(1)", x.go(1), Check.STATE);
         check.due("go(0)", x.go(0), Check.BEYOND);
         check.due("status(4)", x.status(4), 3);
+        ThunderCasks y = new ThunderCasks();
+        for (int i = 0; i < 1666; i++) {
+            y.go(60);
+        }
+        y.go(19);
+        check.due("just the last day: storms(20)", y.storms(20), 0);
+        check.due("storms(1)", y.storms(1), Check.STATE);
+        check.due("days behind the last are of its number: claps(100)", y.claps(100), 0);
     }
 
     private static void now() {

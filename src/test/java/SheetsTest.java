@@ -69,9 +69,12 @@ public final class SheetsTest {
         check.due("sheet(4, 8, -1)", x.sheet(4, 8, -1), Check.BEYOND);
         check.due("sheet(-1, 8, 1)", x.sheet(-1, 8, 1), Check.BEYOND);
         check.due("write(0, 39, 1)", x.write(0, 39, 1), 1);
+        check.due("write(0, 0, 1)", x.write(0, 0, 1), 1);
+        check.due("write(0, 5, 1)", x.write(0, 5, 1), 1);
         check.due("sheet(0, 8, 40)", x.sheet(0, 8, 40), 40);
         check.due("all 0 again: load(0)", x.load(0), 6);
         check.due("cellar(0, 1)", x.cellar(0, 1), 0);
+        check.due("cellar(5, 1)", x.cellar(5, 1), 0);
     }
 
     private static void write() {

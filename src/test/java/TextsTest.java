@@ -91,6 +91,14 @@ public final class TextsTest {
         fault("5", 0);
         fault(" casks", 1);
         fault("cas", 0);
+        fault("bask", 0);
+        fault("caskz", 0);
+        fault("caska", 0);
+        fault("cask`", 4);
+        fault("cask{", 4);
+        fault("cask peal 1/", 11);
+        fault("cask peal 1:", 11);
+        fault("cask xn 5", 5);
         fault("Cask", 0);
         fault("cask ;", 6);
         fault("cask ; ", 7);

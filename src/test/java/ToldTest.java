@@ -24,6 +24,14 @@ public final class ToldTest {
         Check.fill(x, 0, 16, 0, 0, -1, -1, -1, -1, 1);
         check.due("a storm on day 5: fits(0, 0)", x.fits(0, 0), 5);
         check.due("a storm on day 5: pealed(0, 0)", x.pealed(0, 0), 47);
+        x.change(0, 4, 98);
+        Check.fill(x, 0, 16, 0, 1);
+        check.due("100 alone: fits(0, 0)", x.fits(0, 0), 1);
+        check.due("100 alone: pealed(0, 0)", x.pealed(0, 0), 100);
+        x.change(0, 4, 99);
+        check.due("101 is too much: fits(0, 0)", x.fits(0, 0), 0);
+        check.due("101 is too much: pealed(0, 0)", x.pealed(0, 0), Check.NONE);
+        x.change(0, 4, 50);
         Check.fill(x, 0, 16, 1, 1);
         check.due("fits(0, 0)", x.fits(0, 0), 0);
         check.due("pealed(0, 0)", x.pealed(0, 0), Check.NONE);

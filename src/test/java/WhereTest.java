@@ -57,10 +57,21 @@ public final class WhereTest {
         check.due("pitchFor(0, 0)", x.pitchFor(0, 0), 0);
         check.due("pitchFor(0, 1)", x.pitchFor(0, 1), 2);
         check.due("of(0, 3)", x.of(0, 3), 7);
+        eighthPitch();
         check.due("pitchFor(4, 1)", x.pitchFor(4, 1), Check.BEYOND);
         check.due("pitchFor(0, -1)", x.pitchFor(0, -1), Check.BEYOND);
         check.due("pitchFor(0, 41)", x.pitchFor(0, 41), Check.BEYOND);
         check.due("pitchFor(0, 40)", x.pitchFor(0, 40) >= 0 ? 1 : 0, 1);
+    }
+
+    /** Seven others at most lie beside it, so the eighth pitch is the greatest that can be due. */
+    private static void eighthPitch() {
+        ThunderCasks x = new ThunderCasks();
+        Check.add(x, Check.MELLOW, 5, 500, 0, 999);
+        for (int pitch = 0; pitch < 7; pitch++) {
+            Check.add(x, Check.MELLOW, 5, 50, pitch, 999);
+        }
+        check.due("pitchFor(0, 1)", x.pitchFor(0, 1), 7);
     }
 
     private static void hoopsFor() {
@@ -92,6 +103,10 @@ public final class WhereTest {
         check.due("frostFor(5, 1)", x.frostFor(5, 1), 4);
         check.due("frostFor(4, 1)", x.frostFor(4, 1), Check.NONE);
         check.due("cellar(5, 0)", x.cellar(5, 0), 7);
+        x.storm(5, 50);
+        check.due("a storm on day 5: frostFor(5, 5)", x.frostFor(5, 5), 4);
+        check.due("a storm on day 5: frostFor(5, 6)", x.frostFor(5, 6), Check.NONE);
+        x.storm(5, 10);
         x.change(0, 4, 80);
         check.due("frostFor(5, 1)", x.frostFor(5, 1), 0);
         x.change(0, 4, 79);
@@ -125,6 +140,15 @@ public final class WhereTest {
         }
         check.due("it hums: empty(1)", x.empty(1), Check.NONE);
         either();
+        allOfThem();
+    }
+
+    private static void allOfThem() {
+        ThunderCasks x = new ThunderCasks();
+        for (int i = 0; i < 8; i++) {
+            Check.add(x, Check.CASK, 1 + i % 5, 300, i, 100);
+        }
+        check.due("all eight: empty(1)", x.empty(1), 255);
     }
 
     /** A storm comes to the least PEAL, so either of two emptied casks takes it: the least number counts. */
