@@ -708,7 +708,7 @@ public final class ThunderCasks {
         return part;
     }
 
-    /** All that an image keeps. The three rows of an object are made once and used again. */
+    /** All that an image keeps. An object makes three in its constructor and uses them again, for room is short. */
     private static final class Pass {
         final int[] frosts = new int[CELLARS];
         final int[] list = new int[CELLARS];
