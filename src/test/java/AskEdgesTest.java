@@ -341,6 +341,8 @@ public final class AskEdgesTest {
         check.due("order(9)", x.order(9), 192);
         x.change(5, 2, 5);
         check.due("of several the least: order(9)", x.order(9), 96);
+        x.change(7, 2, 9);
+        check.due("one, though two are a lesser number: order(9)", x.order(9), 128);
     }
 
     private static void blendsBetween() {

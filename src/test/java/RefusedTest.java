@@ -75,9 +75,18 @@ public final class RefusedTest {
         }
         x.image();
         x.hold(0, 7);
+        x.hold(2, 3);
         x.go(3);
         makeSheets(x);
         Check.feed(x, "storm 2 2");
+    }
+
+    /** More calls than an object is used for: the last DAY can't be had otherwise. */
+    private static void makeLate(ThunderCasks x) {
+        for (int i = 0; i < 1666; i++) {
+            x.go(60);
+        }
+        makeSome(x);
     }
 
     private static void cellars() {
@@ -156,6 +165,16 @@ public final class RefusedTest {
     private static void days() {
         some.bounds("go", new int[] {1, 60});
         bare.bounds("go", new int[] {1, 60});
+        // DAY is 99967.
+        Twins late = new Twins(check, "the last days", RefusedTest::makeLate);
+        int[] tooMany = {33, 34, 60};
+        for (int n : tooMany) {
+            late.refused(Check.STATE, "go", n);
+        }
+        int[] beyond = {0, 61, LEAST, MOST};
+        for (int n : beyond) {
+            late.refused(Check.BEYOND, "go", n);
+        }
         some.bounds("now", upTo(6));
         bare.bounds("now", upTo(6));
     }
@@ -255,6 +274,14 @@ public final class RefusedTest {
     private static void draws() {
         some.bounds("storms", new int[] {1, 20});
         bare.bounds("storms", new int[] {1, 20});
+        Twins last = new Twins(check, "the last day but ten", x -> {
+            makeLate(x);
+            x.go(22);
+        });
+        last.refused(Check.STATE, "storms", 11);
+        last.refused(Check.STATE, "storms", 20);
+        last.refused(Check.BEYOND, "storms", 21);
+        last.refused(Check.BEYOND, "storms", 0);
         some.bounds("odds", upTo(23), upTo(1));
         bare.bounds("odds", upTo(23), upTo(1));
     }

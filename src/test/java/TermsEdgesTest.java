@@ -8,6 +8,8 @@ public final class TermsEdgesTest {
         casksAtFirst();
         leastAndMost();
         ninthCask();
+        cellarsWithoutAndWithAll();
+        soldOnes();
         loudOfCask();
         loudOfCrack();
         loudOfForged();
@@ -95,6 +97,40 @@ public final class TermsEdgesTest {
         check.due("of(7, 0)", x.of(7, 0), 6);
         check.due("of(8, 0)", x.of(8, 0), Check.BEYOND);
         check.due("count(1)", x.count(1), 8);
+    }
+
+    private static void cellarsWithoutAndWithAll() {
+        for (int cellar = 0; cellar < 6; cellar++) {
+            ThunderCasks x = new ThunderCasks();
+            for (int i = 0; i < 8; i++) {
+                check.due("none IN it: cellar(" + cellar + ", 2)", x.cellar(cellar, 2), 0);
+                check.due("none IN it: cellar(" + cellar + ", 3)", x.cellar(cellar, 3), -1);
+                Check.add(x, Check.HEAT, (cellar + 1) % 6, 9 - i, 0, 100);
+                check.due("beside it: cellar(.., 2)", x.cellar((cellar + 1) % 6, 2), (2 << i) - 1);
+                check.due("the least PEAL: cellar(.., 3)", x.cellar((cellar + 1) % 6, 3), i);
+            }
+            check.due("no finding: status(-1)", x.status(-1), 0);
+        }
+    }
+
+    private static void soldOnes() {
+        for (int kind = 0; kind < 7; kind++) {
+            ThunderCasks x = new ThunderCasks();
+            x.cask(0, 0);
+            Check.add(x, kind, 5, 999, 11, 999);
+            x.change(1, 5, 999);
+            x.change(1, 6, 999);
+            x.change(0, 2, 7);
+            int loud = x.of(1, 7);
+            check.due("what it was LOUD: sell(1)", x.sell(1), loud);
+            int[] dues = {kind, 5, 0, 11, 999, 0, 999};
+            for (int what = 0; what < dues.length; what++) {
+                check.due("of(1, " + what + ")", x.of(1, what), dues[what]);
+            }
+            check.due("the other one's: of(0, 2)", x.of(0, 2), 7);
+            check.due("it was silent: sell(1)", x.sell(1), 0);
+            check.due("no CLAP: now(1)", x.now(1), 0);
+        }
     }
 
     private static void loud(int kind, int peal, int age, int due) {

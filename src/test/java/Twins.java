@@ -1,11 +1,17 @@
+import java.util.List;
 import java.util.function.Consumer;
+import java.util.function.Function;
 
 /**
- * Two objects made alike: one of them is asked what must be refused, then both are asked all that can be seen of an
- * object. What is kept out of sight (sheets, the tape, spots, the image) is seen by what later calls make of it.
+ * Two objects made alike: one of them is asked what must be refused, then both are looked at. What is kept out of sight
+ * (sheets, the tape, spots, the image) is seen by what later calls make of it. Each look has twins of its own, for a look
+ * may be refused something, too, and what that did wrong would be seen of both.
  */
 final class Twins {
     private static final int FINDINGS = 7;
+    private static final List<Function<ThunderCasks, String>> LOOKS = List.of(
+        Twins::state, Twins::spots, Twins::numbers, Twins::bits, Twins::alike, Twins::sizes, Twins::byText, Twins::kept,
+        Twins::torn);
 
     private final Check check;
     private final String name;
@@ -25,16 +31,20 @@ final class Twins {
 
     /** Of all of an object nothing but status() may change, and of this just the finding that was answered. */
     void refused(int finding, String call, int... p) {
+        String told = name + ": " + Calls.told(call, p);
         ThunderCasks asked = made();
         ThunderCasks other = made();
-        String told = name + ": " + Calls.told(call, p);
         check.due(told, Calls.ask(asked, call, p), finding);
         int which = Check.BEYOND - finding;
         for (int i = -1; i < FINDINGS; i++) {
             int more = i == -1 || i == which ? 1 : 0;
             check.due(told + ", then status(" + i + ")", asked.status(i), other.status(i) + more);
         }
-        check.same(told + " changes nothing else", seen(asked), seen(other));
+        for (Function<ThunderCasks, String> look : LOOKS) {
+            asked = made();
+            Calls.ask(asked, call, p);
+            check.same(told + " changes nothing else", look.apply(asked), look.apply(made()));
+        }
     }
 
     /** It isn't refused as beyond: the least and the greatest that may be asked. */
@@ -68,20 +78,8 @@ final class Twins {
         return p;
     }
 
-    /** Some 330 calls at most, so that an object stays below its 512. */
-    private static String seen(ThunderCasks x) {
-        StringBuilder all = new StringBuilder();
-        putState(x, all.append("now:"));
-        putSheets(x, all.append("sheets:"));
-        all.append("text: ").append(x.text());
-        putState(x, all.append("by the text:"));
-        all.append("undo: ").append(x.undo());
-        putState(x, all.append("kept:"));
-        all.append("tear: ").append(x.tear());
-        return all.toString();
-    }
-
-    private static void putState(ThunderCasks x, StringBuilder all) {
+    private static String state(ThunderCasks x) {
+        StringBuilder all = new StringBuilder("state:");
         for (int cellar = 0; cellar < 6; cellar++) {
             all.append(' ').append(x.cellar(cellar, 0)).append(' ').append(x.cellar(cellar, 1));
         }
@@ -94,26 +92,72 @@ final class Twins {
         for (int what = 0; what < 8; what++) {
             all.append(' ').append(x.count(what));
         }
-        for (int spot = 0; spot < 10; spot++) {
-            all.append(' ').append(x.as(spot, 0));
-        }
-        all.append('\n');
+        return all.toString();
     }
 
-    /** Numbers by what the list becomes, bits by which sheets are alike, sizes by where writing ends. */
-    private static void putSheets(ThunderCasks x, StringBuilder all) {
+    private static String spots(ThunderCasks x) {
+        StringBuilder all = new StringBuilder("spots:");
+        for (int spot = 9; spot >= 0; spot--) {
+            all.append(' ').append(x.as(spot, 0));
+        }
+        return all.toString();
+    }
+
+    private static String loaded(ThunderCasks x, int s) {
+        StringBuilder all = new StringBuilder(" load: ").append(x.load(s));
+        for (int cellar = 0; cellar < 6; cellar++) {
+            all.append(' ').append(x.cellar(cellar, 1));
+        }
+        return all.toString();
+    }
+
+    private static String numbers(ThunderCasks x) {
+        StringBuilder all = new StringBuilder("numbers:");
         for (int s = 0; s < 4; s++) {
-            all.append(' ').append(x.load(s));
-            for (int cellar = 0; cellar < 6; cellar++) {
-                all.append(' ').append(x.cellar(cellar, 1));
-            }
-            for (int t = s + 1; t < 4; t++) {
+            all.append(loaded(x, s));
+        }
+        return all.toString();
+    }
+
+    /** 300 is 44 in 8 bits; 65541 is 5 in 8 and in 16. */
+    private static String bits(ThunderCasks x) {
+        StringBuilder all = new StringBuilder("bits:");
+        for (int s = 0; s < 4; s++) {
+            all.append(' ').append(x.write(s, 0, 300)).append(loaded(x, s));
+            all.append(' ').append(x.write(s, 0, 65541)).append(loaded(x, s));
+        }
+        return all.toString();
+    }
+
+    private static String alike(ThunderCasks x) {
+        StringBuilder all = new StringBuilder("alike:");
+        for (int s = 0; s < 4; s++) {
+            for (int t = s; t < 4; t++) {
                 all.append(' ').append(x.copy(s, 0, t, 0, 0));
             }
-            for (int i = 0; i < 8; i++) {
+        }
+        return all.toString();
+    }
+
+    private static String sizes(ThunderCasks x) {
+        StringBuilder all = new StringBuilder("sizes:");
+        for (int i = 0; i < 8; i++) {
+            for (int s = 0; s < 4; s++) {
                 all.append(' ').append(x.write(s, i, 0));
             }
         }
-        all.append('\n');
+        return all.toString();
+    }
+
+    private static String byText(ThunderCasks x) {
+        return "text: " + x.text() + " " + state(x);
+    }
+
+    private static String kept(ThunderCasks x) {
+        return "undo: " + x.undo() + " " + state(x) + " " + spots(x);
+    }
+
+    private static String torn(ThunderCasks x) {
+        return "tear: " + x.tear() + " " + x.undo();
     }
 }
